@@ -203,7 +203,7 @@ public final class FuzzTest {
 
     public static void main(String[] args) {
         long first = args.length > 0 ? Long.parseLong(args[0]) : 1;
-        int runs = args.length > 1 ? Integer.parseInt(args[1]) : 150;
+        int runs = args.length > 1 ? Integer.parseInt(args[1]) : 600;
         for (long seed = first; seed < first + runs; seed++) {
             try {
                 new FuzzTest(seed).go(150);

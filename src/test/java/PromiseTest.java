@@ -206,6 +206,9 @@ public final class PromiseTest {
         samePicture("make", x, before);
         same("to the last cell: make(19, 0)", x.make(19, 0), 4);
         same("count(0)", x.count(0), 50);
+        MasterHeap empty = started(8, 50);
+        same("the last block is all there is: make(20, 0)", empty.make(20, 0), 0);
+        blocks(empty, "0:21:1");
         // it slides first, and grows then
         MasterHeap y = started(20, 50);
         y.make(4, 0);
@@ -632,6 +635,16 @@ public final class PromiseTest {
         same("by a purge: remake(0)", x.remake(0), 4);
         same("handle(1, 0)", x.handle(1, 0), 2);
         same("count(4)", x.count(4), 12);
+        MasterHeap y = started(20, 20);
+        y.make(4, 1);
+        y.make(9, 2);
+        y.mark(0, true);
+        y.purge(0);
+        y.make(5, 0);
+        blocks(y, "0:10:2 10:6:3 16:4:0");
+        same("one cell short: remake(0)", y.remake(0), -2);
+        y.drop(2);
+        same("remake(0)", y.remake(0), 10);
     }
 
     private static void promise15() {
@@ -695,6 +708,24 @@ public final class PromiseTest {
         same("handle(1, 0)", x.handle(1, 0), 2);
         same("get(0, 8)", x.get(0, 8), 18);
         same("handle(0, 8)", x.handle(0, 8), 1);
+        // a place is one cell short; the cells behind it are just enough, and one short
+        MasterHeap z = started(20, 20);
+        z.make(4, 0);
+        z.make(4, 0);
+        z.make(4, 0);
+        same("one cell short: resize(0, 5)", z.resize(0, 5), -2);
+        z.drop(1);
+        z.make(1, 0);
+        blocks(z, "0:5:1 5:2:2 7:3:0 10:5:3 15:5:0");
+        same("just enough behind: resize(1, 4)", z.resize(1, 4), 5);
+        blocks(z, "0:5:1 5:5:2 10:5:3 15:5:0");
+        same("to the last cell: resize(2, 9)", z.resize(2, 9), 10);
+        blocks(z, "0:5:1 5:5:2 10:10:3");
+        same("nothing behind: resize(2, 10)", z.resize(2, 10), -2);
+        z.resize(1, 2);
+        z.lock(1);
+        same("one short behind, and fixed: resize(1, 5)", z.resize(1, 5), -2);
+        same("just enough behind, and fixed: resize(1, 4)", z.resize(1, 4), 5);
         // its own block slides while a place is sought
         MasterHeap y = started(30, 30);
         y.make(4, 0);
@@ -762,6 +793,21 @@ public final class PromiseTest {
         z.lock(2);
         same("fix(4)", z.fix(4), 0);
         blocks(z, "0:5:33 5:5:2 10:10:3");
+        // a block goes below, just ahead of a fixed block behind the cleared cells
+        MasterHeap v = started(20, 20);
+        v.make(3, 0);
+        v.make(1, 0);
+        v.make(3, 0);
+        v.make(1, 0);
+        v.make(7, 0);
+        v.lock(1);
+        v.lock(4);
+        v.drop(0);
+        v.drop(3);
+        blocks(v, "0:4:0 4:2:2 6:4:3 10:2:0 12:8:5");
+        same("fix(6)", v.fix(6), -2);
+        same("fix(5)", v.fix(5), 0);
+        blocks(v, "0:4:3 4:2:2 6:6:33 12:8:5");
         // by growing
         MasterHeap w = started(12, 30);
         w.make(10, 0);
@@ -815,6 +861,8 @@ public final class PromiseTest {
         same("reserve(0)", x.reserve(0), NONE);
         same("reserve(61)", x.reserve(61), NONE);
         samePicture("reserve", x, before);
+        same("all the cells: reserve(39)", started(40, 40).reserve(39), 0);
+        same("one more: reserve(40)", started(40, 40).reserve(40), -2);
         // the last block stands out of the cells: what stands out is free for it alone
         MasterHeap y = started(20, 20);
         y.make(3, 0);
@@ -909,6 +957,14 @@ public final class PromiseTest {
         same("undo()", x.undo(), NONE);
         same("count(2)", x.count(2), 1);
         blocks(x, "0:10:1 10:20:0");
+        for (int k = 0; k < 40; k++) {
+            same("put(0, 0, " + k + ")", x.put(0, 0, k), k == 0 ? 0 : k - 1);
+        }
+        for (int k = 39; k >= 28; k--) {
+            same("get(0, 0)", x.get(0, 0), k);
+            same("undo()", x.undo(), k - 28);
+        }
+        same("get(0, 0)", x.get(0, 0), 27);
         for (int k = 0; k < 12; k++) {
             pictures[k] = withoutTheLast(x);
             act(x, k);
@@ -1075,6 +1131,7 @@ public final class PromiseTest {
         same("free(3)", x.free(3), 2);
         same("free(-1)", x.free(-1), NONE);
         same("free(4)", x.free(4), NONE);
+        freeBetweenAll();
         MasterHeap y = started(10, 10);
         y.make(9, 0);
         same("free(0)", y.free(0), 0);
@@ -1083,6 +1140,39 @@ public final class PromiseTest {
         same("free(3)", y.free(3), 1);
         y.lock(0);
         same("free(3)", y.free(3), 0);
+    }
+
+    /** As many blocks as there can be: eight handles and three islands, each between free ones. */
+    private static void freeBetweenAll() {
+        MasterHeap x = started(200, 200);
+        for (int h = 0; h < 3; h++) {
+            x.make(1, 0);
+            x.lock(h);
+            x.fix(4);
+        }
+        for (int h = 0; h < 3; h++) {
+            x.unlock(h);
+            x.drop(h);
+        }
+        for (int h = 0; h < 8; h++) {
+            same("make(3, 0)", x.make(3, 0), h);
+        }
+        x.drop(0);
+        x.make(60, 0);
+        for (int h = 1; h < 8; h++) {
+            x.resize(h, 1);
+            x.lock(h);
+        }
+        same("free(2)", x.free(2), 12);
+        same("free(0)", x.free(0), 200 - 3 * 5 - 7 * 2 - 61);
+        same("count(7)", x.count(7), 23);
+        same("block(22, 0)", x.block(22, 0), 114);
+        same("free(3)", x.free(3), 11);
+        x.lock(0);
+        same("free(3)", x.free(3), 12);
+        same("three(199, 1, 1)", x.three(199, 1, 1), false);
+        same("three(85, 3, 1)", x.three(85, 3, 1), true);
+        same("three(85, 4, 1)", x.three(85, 4, 1), false);
     }
 
     private static void promise28() {
@@ -1121,6 +1211,14 @@ public final class PromiseTest {
         same("would(1, 5)", w.would(1, 5), NONE);
         same("would(199, 5)", w.would(199, 5), NONE);
         would("the whole heap", started(200, 200), 199, 1, 0, 0, 200, 0);
+        would("the least", started(8, 8), 1, 1, 0, 0, 8, 0);
+        MasterHeap all = started(24, 24);
+        for (int h = 0; h < 8; h++) {
+            all.make(2, 0);
+            all.least(h, 1);
+            all.mark(h, true);
+        }
+        would("all are squeezed, all are purged", all, 23, 1, 255, 0, 24, 255);
     }
 
     private static void would(String name, MasterHeap x, int size, int... want) {
@@ -1180,6 +1278,8 @@ public final class PromiseTest {
         same("a fixed one can't go: fewest(5, 1)", x.fewest(5, 1), 8);
         x.drop(0);
         same("none must go: fewest(4, 0)", x.fewest(4, 0), 0);
+        same("none must go: fewest(1, 0)", x.fewest(1, 0), 0);
+        same("in a heap of most cells: fewest(199, 0)", started(8, 200).fewest(199, 0), 0);
         same("fewest(4, 1)", x.fewest(4, 1), 0);
         same("fewest(0, 0)", x.fewest(0, 0), NONE);
         same("fewest(200, 0)", x.fewest(200, 0), NONE);
@@ -1257,7 +1357,21 @@ public final class PromiseTest {
         same("cheapest(1, -1)", x.cheapest(1, -1), NONE);
         same("cheapest(199, 2)", x.cheapest(199, 2), NONE);
         same("in a heap of most cells: cheapest(199, 0)", started(8, 200).cheapest(199, 0), 0);
-        // two of like length: the least as bits
+        same("cheapest(1, 0)", started(8, 8).cheapest(1, 0), 0);
+        // each of two of like length would do: the least as bits
+        MasterHeap z = started(22, 22);
+        z.make(4, 0);
+        z.make(1, 0);
+        z.make(4, 0);
+        z.make(4, 0);
+        z.make(4, 0);
+        z.lock(1);
+        z.drop(0);
+        z.drop(3);
+        blocks(z, "0:5:0 5:2:2 7:5:3 12:5:0 17:5:5");
+        same("cheapest(9, 0)", z.cheapest(9, 0), 5);
+        same("cheapest(9, 1)", z.cheapest(9, 1), 4);
+        // one of two of like length would not do
         MasterHeap y = threeGaps(29);
         same("cheapest(9, 0)", y.cheapest(9, 0), 5);
         same("cheapest(9, 1)", y.cheapest(9, 1), 32);
@@ -1372,6 +1486,9 @@ public final class PromiseTest {
         same("a free one over two blocks: torn(3)", x.torn(3, 22 * 64), NONE);
         same("a free one to the end: torn(10)", x.torn(10, 20 * 64), NONE);
         same("a free one that is shorter: torn(10) finds", x.torn(10, 10 * 64), 20);
+        MasterHeap y = started(9, 9);
+        y.make(7, 0);
+        same("a free one of one cell: torn(8, 64)", y.torn(8, 64), NONE);
         x.put(1, 2, 2 * 64);
         same("into contents that look like a header: torn(3)", x.torn(3, 5 * 64), 8);
         x.put(1, 2, 2 * 64 + 1);
