@@ -80,6 +80,14 @@ final class ActBoundaries extends Boundaries {
             same("handle(0, " + what + ")", x.handle(0, what), all[what]);
         }
         zeros(x, 1, 10);
+        MasterHeap last = made(Boundaries::eight);
+        mark(last, 7, 3);
+        last.least(7, 1);
+        drop(last, 7, 3);
+        same("make(1, 0)", last.make(1, 0), 3);
+        same("handle(3, 4)", last.handle(3, 4), 0);
+        same("make(1, 0)", last.make(1, 0), 7);
+        same("handle(7, 4)", last.handle(7, 4), 0);
         // into cells that another block has left by a squeeze
         MasterHeap y = heap(10, 10, 9);
         fill(y, 0, 20);
@@ -459,6 +467,24 @@ final class ActBoundaries extends Boundaries {
         same("the other is purged: resize(0, 10)", purged.resize(0, 10), 10);
         blocks(purged, "0:10:0 10:11:1 21:9:0");
         filled(purged, 0, 40, 9);
+        // of any other handle, too
+        Way second = x -> {
+            lay(x, 30, 30, 9, 9, 4);
+            fill(x, 1, 40);
+            x.least(1, 1);
+            x.mark(1, true);
+            lock(x, 0, 2);
+        };
+        still(second, "resize(1, 10)", x -> x.resize(1, 10), CANNOT);
+        MasterHeap unlocked = made(second);
+        unlocked.unlock(0);
+        unlocked.least(0, 3);
+        same("resize(1, 10)", unlocked.resize(1, 10), CANNOT);
+        unlocked.least(0, 1);
+        unlocked.resize(2, 1);
+        unlocked.unlock(2);
+        same("resize(1, 10)", unlocked.resize(1, 10), 14);
+        filled(unlocked, 1, 40, 9);
     }
 
     @Sentence(promise = {15}, says = "its CONTENTS go there (wherever it lies by then), its own is FREE;")
@@ -719,7 +745,7 @@ final class ActBoundaries extends Boundaries {
     static void actsAndUndosByTurns() {
         MasterHeap x = heap(20, 20, 1);
         int clock = 1;
-        for (int turn = 0; turn < 20; turn++) {
+        for (int turn = 0; turn < 60; turn++) {
             x.put(0, 0, 100 + turn);
             x.put(0, 0, 200 + turn);
             same("undo()", x.undo(), Math.min(turn + 2, 11));
@@ -728,11 +754,11 @@ final class ActBoundaries extends Boundaries {
             same("count(2)", x.count(2), clock);
         }
         same("count(6)", x.count(6), 11);
-        for (int turn = 19; turn > 8; turn--) {
+        for (int turn = 59; turn > 48; turn--) {
             same("get(0, 0)", x.get(0, 0), 100 + turn);
-            same("undo()", x.undo(), turn - 9);
+            same("undo()", x.undo(), turn - 49);
         }
-        same("get(0, 0)", x.get(0, 0), 108);
+        same("get(0, 0)", x.get(0, 0), 148);
         same("undo()", x.undo(), NONE);
     }
 

@@ -46,6 +46,9 @@ final class AskBoundaries extends Boundaries {
                 still(RICH, "handle(" + h + ", " + what + ")", x -> x.handle(h, what), NONE);
             }
         }
+        for (int h = 8; h <= 10; h++) {
+            same("a pointer is no handle: handle(" + h + ", 1)", made(Boundaries::islands).handle(h, 1), NONE);
+        }
         for (int h : new int[] {4, 7}) {
             still(RICH, "handle(" + h + ", 0)", x -> x.handle(h, 0), 0);
             for (int what : new int[] {MIN, -1, 1, 2, 3, 4, 5, 6, 7, 8, 9, MAX}) {
@@ -139,6 +142,9 @@ final class AskBoundaries extends Boundaries {
         };
         still(gone, "UNUSED again: pointer(0, 0)", x -> x.pointer(0, 0), NONE);
         still(gone, "UNUSED again: pointer(0, 1)", x -> x.pointer(0, 1), NONE);
+        for (int p = -8; p <= -1; p++) {
+            same("a handle is no pointer: pointer(" + p + ", 0)", made(Boundaries::eight).pointer(p, 0), NONE);
+        }
     }
 
     // ---- cell, block, free ----
@@ -503,20 +509,21 @@ final class AskBoundaries extends Boundaries {
 
     @Sentence(promise = {35}, says = "its OWNER is none that there is,")
     static void noSuchOwner() {
-        for (int owner = 0; owner < 64; owner++) {
-            // handle 7 and pointer 2 are all there are, but for these
-            MasterHeap x = heap(40, 40);
+        // all the islands and handles there can be, of 2 cells each, side by side; then cells that are FREE
+        Way all = x -> {
+            x.start(40, 40);
             islands(x);
             for (int h = 0; h < 8; h++) {
                 x.make(1, 0);
             }
-            x.put(7, 0, 9);
-            int own = x.cell(20);
-            same("as it is: torn(20)", x.torn(20, own), NONE);
-            same("owner " + owner + ": torn(20)", x.torn(20, 128 + owner), owner == 8 ? NONE : owner == 0 ? 22 : 20);
-            int island = x.cell(4);
-            same("as it is: torn(4)", x.torn(4, island), NONE);
-            same("owner " + owner + ": torn(4)", x.torn(4, 128 + owner), owner == 35 || owner == 0 ? NONE : 4);
+        };
+        for (int at = 0; at < 22; at += 2) {
+            MasterHeap x = made(all);
+            int own = at < 6 ? 33 + at / 2 : 1 + (at - 6) / 2;
+            for (int owner = 1; owner < 64; owner++) {
+                same("owner " + owner + ": torn(" + at + ")", x.torn(at, 128 + owner), owner == own ? NONE : at);
+            }
+            same("FREE: torn(" + at + ")", x.torn(at, 128), at < 20 ? NONE : 22);
         }
     }
 

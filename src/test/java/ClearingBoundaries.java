@@ -111,6 +111,13 @@ final class ClearingBoundaries extends Boundaries {
         same("up to it: reserve(9)", made(island).reserve(9), 0);
         same("its header: reserve(10)", made(island).reserve(10), 12);
         same("it is not the last of the cells: reserve(12)", made(island).reserve(12), 12);
+        // one FREE cell between two that are FIXED
+        MasterHeap one = heap(20, 20, 2, 1);
+        one.resize(0, 1);
+        lock(one, 0, 1);
+        blocks(one, "0:2:1 2:1:0 3:2:2 5:15:0");
+        same("reserve(1)", one.reserve(1), 5);
+        blocks(one, "0:2:1 2:1:0 3:2:2 5:15:0");
     }
 
     @Sentence(promise = {16, 18}, says = "each LOOSE BLOCK that has any of these CELLS, from the first on, goes "
@@ -130,6 +137,10 @@ final class ClearingBoundaries extends Boundaries {
         blocks(both, "0:12:0 12:4:2 16:4:1");
         filled(both, 0, 10, 3);
         filled(both, 1, 20, 3);
+        MasterHeap all = made(x -> lay(x, 40, 40, 1, 1, 1, 1, 1, 1, 1, 1));
+        same("as many as there can be: reserve(15)", all.reserve(15), 0);
+        blocks(all, "0:24:0 24:2:8 26:2:7 28:2:6 30:2:5 32:2:4 34:2:3 36:2:2 38:2:1");
+        same("count(5)", all.count(5), 8);
         // the first is the one that lies first, not the least handle
         MasterHeap crossed = heap(20, 20, 1, 3);
         crossed.drop(0);
@@ -195,6 +206,12 @@ final class ClearingBoundaries extends Boundaries {
         same("reserve(4)", x.reserve(4), 10);
         blocks(x, "0:4:1 4:4:2 8:2:3 10:5:0");
         same("count(5)", x.count(5), 0);
+        MasterHeap two = heap(23, 23, 3, 5, 1, 4, 1);
+        lock(two, 2, 4);
+        two.drop(3);
+        same("another place, not where the first had gone: reserve(4)", two.reserve(4), 12);
+        blocks(two, "0:4:1 4:6:2 10:2:3 12:5:0 17:2:5 19:4:0");
+        same("count(5)", two.count(5), 0);
         Way none = y -> {
             lay(y, 14, 14, 3, 3, 1);
             y.lock(2);

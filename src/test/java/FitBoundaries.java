@@ -59,6 +59,13 @@ final class FitBoundaries extends Boundaries {
         filled(x, 4, 50, 1);
         same("cell(7)", x.cell(7), 30);
         same("cell(12)", x.cell(12), 50);
+        // one FREE cell ahead of a FIXED one, a LOOSE one close behind that
+        MasterHeap one = heap(20, 20, 2, 1, 1);
+        one.resize(0, 1);
+        one.lock(1);
+        blocks(one, "0:2:1 2:1:0 3:2:2 5:2:3 7:13:0");
+        same("compact()", one.compact(), 0);
+        blocks(one, "0:2:1 2:1:0 3:2:2 5:2:3 7:13:0");
         // ahead of an ISLAND
         MasterHeap y = heap(12, 12);
         y.fix(3);
@@ -166,6 +173,9 @@ final class FitBoundaries extends Boundaries {
         same("all are fixed: free(3)", y.free(3), 0);
         y.unlock(1);
         same("one is not: free(3)", y.free(3), 1);
+        MasterHeap z = heap(10, 20, 9);
+        z.lock(0);
+        same("what it can grow by is none: free(3)", z.free(3), 0);
     }
 
     @Sentence(promise = {3, 28}, says = "the LOOSE ones that are not FIXED, in their order, are each given to a "
@@ -329,6 +339,12 @@ final class FitBoundaries extends Boundaries {
         pair(other);
         other.least(1, 6);
         would(other, 2, 1, 0, 17, 20, 2);
+        // as many as there can be, one behind the other
+        MasterHeap all = heap(24, 24, 2, 2, 2, 2, 2, 2, 2, 2);
+        for (int h = 0; h < 8; h++) {
+            all.least(h, 1);
+        }
+        would(all, 7, 1, 0, 16, 24, 255);
         // one is not enough: both
         would(made(both), 3, 1, 0, 14, 20, 3);
         would(made(both), 5, 1, 0, 14, 20, 3);
@@ -427,6 +443,12 @@ final class FitBoundaries extends Boundaries {
         MasterHeap locked = made(both);
         locked.lock(0);
         would(locked, 1, 1, 2, 10, 20, 0);
+        // WORTH is by the SIZE that it has then: handle 0 was the longer one, and has been squeezed
+        MasterHeap then = heap(20, 20, 9, 8);
+        then.policy(3);
+        then.least(0, 2);
+        mark(then, 0, 1);
+        would(then, 8, 1, 2, 3, 20, 1);
         MasterHeap x = made(both);
         fill(x, 0, 10);
         x.touch(1);
@@ -447,6 +469,15 @@ final class FitBoundaries extends Boundaries {
         would(x, 10, 1, 3, 0, 20, 0);
         would(x, 19, 1, 3, 0, 20, 0);
         noFit(x, 20);
+        // all that there can be are squeezed, and all are purged then
+        MasterHeap all = heap(24, 24, 2, 2, 2, 2, 2, 2, 2, 2);
+        for (int h = 0; h < 8; h++) {
+            all.least(h, 1);
+            all.mark(h, true);
+        }
+        would(all, 21, 2, 127, 2, 24, 255);
+        would(all, 23, 1, 255, 0, 24, 255);
+        noFit(all, 24);
         MasterHeap slide = heap(22, 22, 9, 9);
         mark(slide, 0);
         would(slide, 9, 1, 1, 0, 22, 0);

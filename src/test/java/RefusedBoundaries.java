@@ -21,8 +21,10 @@ final class RefusedBoundaries extends Boundaries {
 
     /** Refused for what is no handle, and for the first and the last that are UNUSED. */
     private static void refusedWithoutHandle(String name, CallOf call, int want) {
+        Way islands = Boundaries::islands;
         for (int handle : NO_HANDLES) {
             still(RICH, name + " of " + handle, x -> call.of(x, handle), want);
+            still(islands, name + " of " + handle + ", all pointers have islands", x -> call.of(x, handle), want);
         }
         still(RICH, name + " of an UNUSED one", x -> call.of(x, UNUSED), want);
         still(RICH, name + " of the last UNUSED one", x -> call.of(x, 7), want);
@@ -34,6 +36,11 @@ final class RefusedBoundaries extends Boundaries {
         }
         still(RICH, name + " of an UNUSED one", x -> call.of(x, 1), want);
         still(RICH, name + " of the last UNUSED one", x -> call.of(x, 2), want);
+        Way eight = Boundaries::eight;
+        for (int pointer = -8; pointer <= -1; pointer++) {
+            int number = pointer;
+            still(eight, name + " of " + pointer + ", all handles are FULL", x -> call.of(x, number), want);
+        }
     }
 
     // ---- make, put, set ----
