@@ -1,6 +1,11 @@
 import java.util.Random;
 
-/** Random runs of calls on MasterHeap and SlowHeap: every answer must be the same. */
+/**
+ * Random runs of calls on MasterHeap and SlowHeap: every answer must be the same.
+ *
+ * An object is asked far more than the 512 times that are promised, so that everything is looked at
+ * behind every act: neither class counts its calls.
+ */
 public final class FuzzTest {
     private final Random random;
     private final MasterHeap x = new MasterHeap();

@@ -24,17 +24,22 @@ public final class PromiseTest {
         return x;
     }
 
-    /** All that can be read without asking what might be, in one text. */
+    /**
+     * How the heap is, in one text; short, since an object is promised to answer 512 calls, no more.
+     * BoundaryTest looks at all there is.
+     */
     private static String picture(MasterHeap x) {
         StringBuilder text = new StringBuilder();
         for (int what = 0; what <= 7; what++) {
             text.append(x.count(what)).append(' ');
         }
-        for (int k = 0; k < x.count(0); k++) {
-            text.append(x.cell(k)).append(',').append(x.after(k)).append(' ');
+        int size = x.count(0);
+        for (int k = 0; k < size; k++) {
+            text.append(x.cell(k)).append(' ');
         }
         for (int h = 0; h < 8; h++) {
-            for (int what = 0; what <= 8; what++) {
+            int last = x.handle(h, 0) == 0 ? 0 : 8;
+            for (int what = 0; what <= last; what++) {
                 text.append(x.handle(h, what)).append(' ');
             }
         }
@@ -923,7 +928,6 @@ public final class PromiseTest {
 
     private static void promise21() {
         MasterHeap x = started(30, 60);
-        String[] pictures = new String[20];
         x.make(9, 3);
         x.make(9, 4);
         x.undo();
@@ -965,14 +969,24 @@ public final class PromiseTest {
             same("undo()", x.undo(), k - 28);
         }
         same("get(0, 0)", x.get(0, 0), 27);
+    }
+
+    private static void promise21AllIsBack() {
         for (int k = 0; k < 12; k++) {
-            pictures[k] = withoutTheLast(x);
+            MasterHeap x = acted(k + 1);
+            same("undo()", x.undo(), Math.min(12, k + 3) - 1);
+            same("all is as ahead of act " + k, withoutTheLast(x).equals(withoutTheLast(acted(k))), true);
+        }
+    }
+
+    private static MasterHeap acted(int acts) {
+        MasterHeap x = started(30, 60);
+        x.make(9, 3);
+        x.put(0, 0, 27);
+        for (int k = 0; k < acts; k++) {
             act(x, k);
         }
-        for (int k = 11; k >= 0; k--) {
-            same("undo()", x.undo(), k);
-            same("all is as ahead of act " + k, withoutTheLast(x).equals(pictures[k]), true);
-        }
+        return x;
     }
 
     private static void act(MasterHeap x, int k) {
@@ -998,7 +1012,8 @@ public final class PromiseTest {
         for (int what = 0; what <= 4; what++) {
             text.append(x.count(what)).append(' ');
         }
-        for (int k = 0; k < x.count(0); k++) {
+        int size = x.count(0);
+        for (int k = 0; k < size; k++) {
             text.append(x.cell(k)).append(' ');
         }
         for (int h = 0; h < 8; h++) {
@@ -1549,7 +1564,7 @@ public final class PromiseTest {
             case 18: promise18(); break;
             case 19: promise19(); break;
             case 20: promise20(); break;
-            case 21: promise21(); break;
+            case 21: promise21(); promise21AllIsBack(); break;
             case 22: promise22(); break;
             case 23: promise23(); break;
             case 24: promise24(); break;
